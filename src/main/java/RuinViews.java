@@ -621,7 +621,7 @@ public final class RuinViews {
         }
 
         int takings() {
-            rankRuins();
+            ruins.rankAll(Moon.brightnessOn(day));
             int coins = 0;
             for (int ruin = 0; ruin < ruins.count; ruin++) {
                 coins += guestsAtRank(ruins.ranks[ruin]) * ruins.price[ruin];
@@ -631,15 +631,11 @@ public final class RuinViews {
 
         void passDays(int days) {
             for (int i = 0; i < days; i++) {
-                passDay();
+                purse += takings();
+                purse -= tickets.settle(day, ruins);
+                ruins.ageAll(day);
+                day++;
             }
-        }
-
-        void passDay() {
-            purse += takings();
-            purse -= tickets.settle(day, ruins);
-            ruins.ageAll(day);
-            day++;
         }
     }
 }

@@ -39,6 +39,7 @@ public final class PromisesTest {
         promise33PurseIn();
         promise34MeanView();
         promise35Digest();
+        fullHouse();
         wrongRuinsEverywhere();
         askingChangesNothing();
         objectsAreApart();
@@ -447,6 +448,15 @@ public final class PromisesTest {
         x.setPrice(4, 0);
         due("22 a new price", x.rankOf(4), 1);
         due("22 the number decides", x.rankOf(5), 2);
+        RuinViews fresh = new RuinViews();
+        fresh.addRuin(5, 0, 0, 0);
+        fresh.addRuin(6, 0, 0, 0);
+        due("23 asked before anything else", fresh.ruinAt(0), 1);
+        RuinViews dear = new RuinViews();
+        dear.addRuin(2, 1, 0, 0); // view 7, the least price
+        dear.addRuin(4, 0, 0, 9); // view 8, the greatest price
+        due("22 the view before the price", dear.rankOf(1), 0);
+        due("22 less view, though for nothing", dear.rankOf(0), 1);
         RuinViews empty = new RuinViews();
         refused("23 no ruins", empty, INDEX, () -> empty.ruinAt(0));
         RuinViews moon = new RuinViews();
@@ -533,6 +543,9 @@ public final class PromisesTest {
         refused("29 the past", x, ARGUMENT, () -> x.viewIn(0, -1));
         refused("29 far too far", x, ARGUMENT, () -> x.viewIn(0, FAR_UP));
         refused("29 no ruin, too far", x, INDEX, () -> x.viewIn(1, 61));
+        RuinViews choked = withRuin(9, 12, 1, 0);
+        due("29 a wall less each day, this one too", choked.viewIn(0, 1), 2 * 8 + 3 + 1);
+        due("29 when it has collapsed", choked.viewIn(0, 9), 0);
         RuinViews y = withRuin(20, 0, 5, 0);
         y.pass(3);
         due("29 from a later day", y.viewIn(0, 1), 40 + 3 + 16);
@@ -636,6 +649,33 @@ public final class PromisesTest {
         x.pass(2);
         due("35 later", x.digest(), mixed(new long[] {2, 2, 2, 1, 10 + 30 + 18 - 4, 3,
             0, 12, 1, 4, 0, -1, 0, 5, 7, 1, 3, 21, 0, 6, 1, 0, 1, 5, 1, 0, 0, 0, 0}));
+    }
+
+    /** As many ruins and tickets as there may be: no row ends too early or too late. */
+    private static void fullHouse() {
+        RuinViews x = new RuinViews();
+        for (int i = 0; i < 10; i++) {
+            x.addRuin(20 - i, 0, 0, 1);
+        }
+        for (int i = 0; i < 30; i++) {
+            x.sellTicket(9, i == 29 ? 0 : 30);
+        }
+        due("14 ten stand", x.standing(), 10);
+        due("22 the last of ten", x.rankOf(9), 9);
+        due("23 the last of ten", x.ruinAt(9), 9);
+        refused("23 an eleventh", x, INDEX, () -> x.ruinAt(10));
+        dueDouble("34 of ten", x.meanView(), 31.0);
+        due("31 the first of ten", x.daysUntilFirst(0), 0);
+        due("31 the last of ten", x.daysUntilFirst(9), -1);
+        due("32 the last of ten", x.bestCut(9), 0);
+        due("33 with thirty tickets", x.purseIn(1), 42);
+        due("33 ruin 9 falls on day 39 only", x.purseIn(31), 30 + 31 * 12);
+        due("8 with ten ruins", x.pass(1), 12);
+        due("27 the last of thirty is used", x.isOpen(29), false);
+        due("27 the others are open", x.isOpen(28), true);
+        x.pass(29);
+        due("30 the last of ten", x.daysUntilCollapse(9), 10);
+        due("17 ivy of the last of ten", x.ivyOf(9), 10);
     }
 
     private static void wrongRuinsEverywhere() {
