@@ -1,17 +1,5 @@
 /** Each promise by itself: ordinary inputs, the edges that the document names, and wrong inputs. */
-public final class PromisesTest {
-    private static final String INDEX = "IndexOutOfBoundsException";
-    private static final String ARGUMENT = "IllegalArgumentException";
-    private static final String STATE = "IllegalStateException";
-    private static final int FAR_DOWN = Integer.MIN_VALUE;
-    private static final int FAR_UP = Integer.MAX_VALUE;
-
-    private static int wrong = 0;
-
-    private interface Call {
-        void make();
-    }
-
+public final class PromisesTest extends Checks {
     public static void main(String[] args) {
         promise1NewObject();
         promise2AddRuin();
@@ -43,64 +31,7 @@ public final class PromisesTest {
         wrongRuinsEverywhere();
         askingChangesNothing();
         objectsAreApart();
-        System.out.println(wrong == 0 ? "every promise holds" : wrong + " answers are wrong");
-        if (wrong != 0) {
-            System.exit(1);
-        }
-    }
-
-    private static void due(String what, long got, long want) {
-        if (got != want) {
-            wrong++;
-            System.out.println(what + " is " + got + ", due is " + want);
-        }
-    }
-
-    private static void due(String what, boolean got, boolean want) {
-        due(what, got ? 1 : 0, want ? 1 : 0);
-    }
-
-    private static void dueDouble(String what, double got, double want) {
-        if (got != want) {
-            wrong++;
-            System.out.println(what + " is " + got + ", due is " + want);
-        }
-    }
-
-    /** The call throws exactly this exception and changes nothing. */
-    private static void refused(String what, RuinViews x, String want, Call call) {
-        long digest = x.digest();
-        int guests = guestsOfMachine(x);
-        String got = "nothing";
-        try {
-            call.make();
-        } catch (RuntimeException e) {
-            got = e.getClass().getSimpleName();
-        }
-        if (!got.equals(want)) {
-            wrong++;
-            System.out.println(what + " throws " + got + ", due is " + want);
-        }
-        due(what + ": digest after it", x.digest(), digest);
-        due(what + ": guests after it", guestsOfMachine(x), guests);
-    }
-
-    private static int guestsOfMachine(RuinViews x) {
-        int guests = x.setGuests(0);
-        x.setGuests(guests);
-        return guests;
-    }
-
-    private static RuinViews withRuin(int walls, int ivy, int ghosts, int price) {
-        RuinViews x = new RuinViews();
-        x.addRuin(walls, ivy, ghosts, price);
-        return x;
-    }
-
-    private static RuinViews withCollapsed() {
-        RuinViews x = withRuin(1, 12, 2, 4);
-        x.pass(1);
-        return x;
+        end("every promise holds");
     }
 
     private static void promise1NewObject() {
@@ -679,9 +610,9 @@ public final class PromisesTest {
     }
 
     private static void wrongRuinsEverywhere() {
-        RuinViews x = withRuin(3, 3, 3, 3);
-        x.addRuin(4, 4, 4, 4);
         for (int ruin : new int[] {-1, 2, 9, 10, FAR_DOWN, FAR_UP}) {
+            RuinViews x = withRuin(3, 3, 3, 3);
+            x.addRuin(4, 4, 4, 4);
             refused("3 ruin " + ruin, x, INDEX, () -> x.cutIvy(ruin, 1));
             refused("4 ruin " + ruin, x, INDEX, () -> x.prop(ruin));
             refused("5 ruin " + ruin, x, INDEX, () -> x.setPrice(ruin, 1));
