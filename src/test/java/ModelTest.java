@@ -2,26 +2,24 @@ import java.util.ArrayList;
 import java.util.Comparator;
 import java.util.List;
 
-/** Long runs of calls, each compared with a second machine that follows the document word by word. */
-public final class ModelTest {
-    private static final int RUNS = 300;
-    private static final int CALLS = 60;
-    private static final String INDEX = "IndexOutOfBoundsException";
-    private static final String ARGUMENT = "IllegalArgumentException";
-    private static final String STATE = "IllegalStateException";
+/**
+ * Runs of as many calls as an object is made for, each compared with a second machine that follows the document word
+ * by word.
+ */
+public final class ModelTest extends Checks {
+    private static final int RUNS = 1500;
+    private static final int CALLS = 512;
 
-    private static int wrong = 0;
     private static long seed = 1;
+    private static int calls = 0;
 
     public static void main(String[] args) {
-        for (int run = 0; run < RUNS && wrong < 20; run++) {
+        for (int run = 0; run < RUNS; run++) {
             seed = 7919L * run + 17;
             follow(run);
         }
-        System.out.println(wrong == 0 ? "both machines agree" : wrong + " answers differ");
-        if (wrong != 0) {
-            System.exit(1);
-        }
+        askOfEachRuin();
+        end("both machines agree");
     }
 
     /** A number from 0 to bound - 1, the same in each run of this test. */
@@ -43,23 +41,24 @@ public final class ModelTest {
     }
 
     private static void same(String what, Ask got, Ask want) {
-        String program = answer(got);
-        String model = answer(want);
-        if (!program.equals(model)) {
-            wrong++;
-            System.out.println(what + " is " + program + ", due is " + model);
+        if (calls < CALLS) {
+            calls++;
+            due(what, answer(got), answer(want));
         }
     }
 
     private static void follow(int run) {
         RuinViews x = new RuinViews();
         Model m = new Model();
+        calls = 0;
         int first = next(12);
         for (int i = 0; i < first; i++) {
             add(run, x, m);
         }
-        for (int call = 0; call < CALLS; call++) {
+        while (calls < CALLS) {
             change(run, x, m);
+            same(run + ", day " + m.day + ": digest()", () -> x.digest(), () -> m.digest());
+            look(run, x, m);
             look(run, x, m);
         }
     }
@@ -108,16 +107,62 @@ public final class ModelTest {
                 break;
             }
             default: {
-                int days = next(8) == 0 ? next(64) - 1 : 1 + next(4);
+                // In some runs days go by slowly, so that ruins stand till the end of their calls.
+                int days = next(run % 2 == 0 ? 60 : 8) == 0 ? next(64) - 1 : 1 + next(run % 3 == 0 ? 1 : 4);
                 same(run + ": pass(" + days + ")", () -> x.pass(days), () -> m.pass(days));
                 break;
             }
         }
     }
 
+    /** Every ruin that there can be, in each of the days of which moon and ivy make different ones. */
+    private static void askOfEachRuin() {
+        for (int day = 0; day < 24; day++) {
+            for (int walls = 1; walls <= 20; walls++) {
+                for (int ivy = 0; ivy <= 12; ivy++) {
+                    askOfRuin(day, walls, ivy);
+                }
+            }
+        }
+    }
+
+    private static void askOfRuin(int day, int walls, int ivy) {
+        calls = 0;
+        RuinViews x = onDay(day);
+        Model m = new Model();
+        m.day = day;
+        for (int ghosts = 0; ghosts <= 5; ghosts++) {
+            String at = "day " + day + ", " + walls + " walls, " + ivy + " ivy, " + ghosts + " ghosts: ";
+            int ruin = m.addRuin(walls, ivy, ghosts, 0);
+            x.addRuin(walls, ivy, ghosts, 0);
+            int days = 1 + (day + walls + 7 * ivy + 13 * ghosts) % 60;
+            same(at + "viewIn(" + days + ")", () -> x.viewIn(ruin, days), () -> m.viewIn(ruin, days));
+            same(at + "daysUntilCollapse()", () -> x.daysUntilCollapse(ruin), () -> m.daysUntilCollapse(ruin));
+            same(at + "daysUntilFirst()", () -> x.daysUntilFirst(ruin), () -> m.daysUntilFirst(ruin));
+            same(at + "bestCut()", () -> x.bestCut(ruin), () -> m.bestCut(ruin));
+        }
+    }
+
+    /** One question, or a few that go together. */
     private static void look(int run, RuinViews x, Model m) {
         String at = run + ", day " + m.day + ": ";
-        same(at + "digest()", () -> x.digest(), () -> m.digest());
+        switch (next(7)) {
+            case 0:
+                lookAtMachine(at, x, m);
+                break;
+            case 1:
+                lookAtRuin(at, x, m, next(m.ruins.size() + 2) - 1);
+                break;
+            case 2:
+                lookAtTicket(at, x, m, next(m.tickets.size() + 2) - 1);
+                break;
+            default:
+                lookAhead(at, x, m, next(m.ruins.size() + 2) - 1, next(65) - 2);
+                break;
+        }
+    }
+
+    private static void lookAtMachine(String at, RuinViews x, Model m) {
         same(at + "day()", () -> x.day(), () -> m.day);
         same(at + "phase()", () -> x.phase(), () -> m.day % 8);
         same(at + "brightness()", () -> x.brightness(), () -> m.brightness());
@@ -127,20 +172,6 @@ public final class ModelTest {
         same(at + "purse()", () -> x.purse(), () -> m.purse);
         same(at + "tickets()", () -> x.tickets(), () -> m.tickets.size());
         same(at + "meanView()", () -> x.meanView(), () -> m.meanView());
-        int days = next(65) - 2;
-        same(at + "purseIn(" + days + ")", () -> x.purseIn(days), () -> m.purseIn(days));
-        for (int i = -1; i <= m.ruins.size(); i++) {
-            lookAtRuin(at, x, m, i);
-        }
-        int ruin = next(m.ruins.size() + 2) - 1;
-        same(at + "viewIn(" + ruin + ", " + days + ")", () -> x.viewIn(ruin, days), () -> m.viewIn(ruin, days));
-        same(at + "daysUntilCollapse(" + ruin + ")", () -> x.daysUntilCollapse(ruin), () -> m.daysUntilCollapse(ruin));
-        same(at + "daysUntilFirst(" + ruin + ")", () -> x.daysUntilFirst(ruin), () -> m.daysUntilFirst(ruin));
-        same(at + "bestCut(" + ruin + ")", () -> x.bestCut(ruin), () -> m.bestCut(ruin));
-        int ticket = next(m.tickets.size() + 2) - 1;
-        same(at + "dayOf(" + ticket + ")", () -> x.dayOf(ticket), () -> m.ticket(ticket).day);
-        same(at + "isOpen(" + ticket + ")", () -> x.isOpen(ticket), () -> m.ticket(ticket).open);
-        same(at + "isPaidBack(" + ticket + ")", () -> x.isPaidBack(ticket), () -> m.ticket(ticket).paidBack);
     }
 
     private static void lookAtRuin(String at, RuinViews x, Model m, int i) {
@@ -153,6 +184,32 @@ public final class ModelTest {
         same(at + "rankOf(" + i + ")", () -> x.rankOf(i), () -> m.ranking().indexOf(m.ruin(i)));
         same(at + "ruinAt(" + i + ")", () -> x.ruinAt(i), () -> m.ruinAt(i));
         same(at + "guestsOf(" + i + ")", () -> x.guestsOf(i), () -> m.guestsOf(m.ruin(i)));
+    }
+
+    private static void lookAtTicket(String at, RuinViews x, Model m, int i) {
+        same(at + "dayOf(" + i + ")", () -> x.dayOf(i), () -> m.ticket(i).day);
+        same(at + "isOpen(" + i + ")", () -> x.isOpen(i), () -> m.ticket(i).open);
+        same(at + "isPaidBack(" + i + ")", () -> x.isPaidBack(i), () -> m.ticket(i).paidBack);
+    }
+
+    private static void lookAhead(String at, RuinViews x, Model m, int i, int days) {
+        switch (next(5)) {
+            case 0:
+                same(at + "viewIn(" + i + ", " + days + ")", () -> x.viewIn(i, days), () -> m.viewIn(i, days));
+                break;
+            case 1:
+                same(at + "daysUntilCollapse(" + i + ")", () -> x.daysUntilCollapse(i), () -> m.daysUntilCollapse(i));
+                break;
+            case 2:
+                same(at + "daysUntilFirst(" + i + ")", () -> x.daysUntilFirst(i), () -> m.daysUntilFirst(i));
+                break;
+            case 3:
+                same(at + "bestCut(" + i + ")", () -> x.bestCut(i), () -> m.bestCut(i));
+                break;
+            default:
+                same(at + "purseIn(" + days + ")", () -> x.purseIn(days), () -> m.purseIn(days));
+                break;
+        }
     }
 
     private static final class Ruin {

@@ -560,25 +560,17 @@ public final class PromisesTest extends Checks {
         dueDouble("34 none stands", withCollapsed().meanView(), 0.0);
     }
 
-    private static long mixed(long[] numbers) {
-        long d = 2029;
-        for (long x : numbers) {
-            d = d * 31 + x;
-        }
-        return d;
-    }
-
     private static void promise35Digest() {
-        due("35 empty", new RuinViews().digest(), mixed(new long[] {0, 0, 0, 0, 0, 0}));
+        due("35 empty", new RuinViews().digest(), wrapped(new long[] {0, 0, 0, 0, 0, 0}));
         RuinViews x = withRuin(1, 12, 2, 4);
         x.addRuin(5, 7, 1, 3);
         x.sellTicket(0, 1);
         x.sellTicket(1, 5);
         x.sellTicket(1, 0);
-        due("35 at first", x.digest(), mixed(new long[] {0, 0, 2, 2, 10, 3,
+        due("35 at first", x.digest(), wrapped(new long[] {0, 0, 2, 2, 10, 3,
             1, 12, 2, 4, 5, 1, 3, 5, 7, 1, 3, 19, 0, 6, 1, 1, 0, 5, 1, 0, 0, 1, 0}));
         x.pass(2);
-        due("35 later", x.digest(), mixed(new long[] {2, 2, 2, 1, 10 + 30 + 18 - 4, 3,
+        due("35 later", x.digest(), wrapped(new long[] {2, 2, 2, 1, 10 + 30 + 18 - 4, 3,
             0, 12, 1, 4, 0, -1, 0, 5, 7, 1, 3, 21, 0, 6, 1, 0, 1, 5, 1, 0, 0, 0, 0}));
     }
 

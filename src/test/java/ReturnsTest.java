@@ -27,8 +27,10 @@ public final class ReturnsTest extends Checks {
         promise32Propped();
         promise33FirstAndLastDay();
         promise33BelowZero();
+        promise33TenRuinsThirtyTickets();
         promise34NoneAndTen();
         promise35WrapsAround();
+        promise35WhetherSomethingIsSo();
         whatWouldBeIsOfNow();
         end("the bounds of the answers hold");
     }
@@ -342,6 +344,23 @@ public final class ReturnsTest extends Checks {
         due("the debt tomorrow", x.purseIn(1), -5);
     }
 
+    /** Nine of them stand in thirty days, and the last falls at once; each has three of the thirty tickets. */
+    private static void promise33TenRuinsThirtyTickets() {
+        RuinViews x = new RuinViews();
+        for (int i = 0; i < 10; i++) {
+            x.addRuin(i == 9 ? 1 : 20, i == 9 ? 12 : 0, 0, i);
+        }
+        x.setGuests(0);
+        for (int i = 0; i < 30; i++) {
+            x.sellTicket(9 - i % 10, i);
+        }
+        due("coins for thirty tickets", x.purse(), 135);
+        due("its ticket of day 0 is used", x.purseIn(10), 135);
+        due("its ticket of day 10 is paid back", x.purseIn(11), 126);
+        due("and that of day 20", x.purseIn(21), 117);
+        due("and no other", x.purseIn(30), 117);
+    }
+
     private static void promise34NoneAndTen() {
         dueDouble("without ruins", new RuinViews().meanView(), 0.0);
         dueDouble("without any that stands", withCollapsed().meanView(), 0.0);
@@ -365,7 +384,18 @@ public final class ReturnsTest extends Checks {
         RuinViews y = withRuin(20, 7, 5, 9);
         // 49543202283601855969107 without bound.
         due("of a ruin, wrapped once and more", y.digest(), -4752298381999671469L);
-        due("the same, reckoned here", y.digest(), wrapped(new long[] {0, 0, 1, 1, 0, 0, 20, 7, 5, 9, 49, 0, 6}));
+        due("the same, reckoned by this test", y.digest(), wrapped(new long[] {0, 0, 1, 1, 0, 0, 20, 7, 5, 9, 49, 0, 6}));
+    }
+
+    private static void promise35WhetherSomethingIsSo() {
+        RuinViews x = withRuin(1, 12, 0, 4);
+        x.setGuests(0);
+        x.sellTicket(0, 0);
+        x.sellTicket(0, 1);
+        x.sellTicket(0, 2);
+        x.pass(2);
+        due("a used one, one paid back, one open", x.digest(),
+            wrapped(new long[] {2, 2, 1, 0, 8, 3, 0, 12, 0, 4, 0, -1, 0, 0, 0, 0, 1, 0, 1, 2, 1, 0}));
     }
 
     /** A question ahead starts with what is now, not with what another one left behind. */
