@@ -1,4 +1,8 @@
 import java.io.IOException;
+import java.lang.reflect.Constructor;
+import java.lang.reflect.Field;
+import java.lang.reflect.Method;
+import java.lang.reflect.Modifier;
 import java.nio.file.Files;
 import java.nio.file.Path;
 import java.util.ArrayList;
@@ -19,6 +23,7 @@ public final class LanguageTest {
         {"6", "\\b(try|catch|finally|synchronized|assert|instanceof)\\b"},
         {"6", "throw (?!new (IllegalStateException|IllegalArgumentException|IndexOutOfBoundsException)\\(\"\"\\);)"},
         {"9", "\\bwhile\\b|\\bfor \\(;;"},
+        {"10", "\"\"\\s*\\+|\\+\\s*\"\""},
         {"13", "Random|currentTimeMillis|nanoTime|Thread|java\\."}};
 
     private static final List<String> faults = new ArrayList<>();
@@ -39,6 +44,8 @@ public final class LanguageTest {
             }
         }
         callsMakeNothing();
+        methodsAreShort(code);
+        classesAreSmall();
         for (String fault : faults) {
             System.out.println(fault);
         }
@@ -62,6 +69,57 @@ public final class LanguageTest {
             if (makes && !isField && !line.trim().startsWith("throw new ")) {
                 faults.add("rule 12: a call makes something: " + line.trim());
             }
+        }
+    }
+
+    /** From each line that a method could start with to the brace that ends it. */
+    private static void methodsAreShort(String code) {
+        String[] lines = code.split("\n");
+        for (String indent : new String[] {"    ", "        "}) {
+            int start = -1;
+            for (int i = 0; i < lines.length; i++) {
+                if (start < 0 && lines[i].matches(indent + "\\w.*\\(.*[^;]")) {
+                    start = i;
+                }
+                if (start >= 0 && lines[i].equals(indent + "}")) {
+                    if (i - start + 1 > 60) {
+                        faults.add("rule 11: longer than 60 lines: " + lines[start].trim());
+                    }
+                    start = -1;
+                }
+            }
+        }
+    }
+
+    private static void classesAreSmall() {
+        List<Class<?>> classes = new ArrayList<>();
+        classes.add(RuinViews.class);
+        for (int i = 0; i < classes.size(); i++) {
+            classes.addAll(List.of(classes.get(i).getDeclaredClasses()));
+        }
+        if (classes.size() > 12) {
+            faults.add("rule 11: " + classes.size() + " classes");
+        }
+        for (Class<?> c : classes) {
+            int fields = 0;
+            for (Field f : c.getDeclaredFields()) {
+                fields += Modifier.isStatic(f.getModifiers()) ? 0 : 1;
+            }
+            if (fields > 20) {
+                faults.add("rule 11: " + fields + " fields in " + c.getName());
+            }
+            for (Method m : c.getDeclaredMethods()) {
+                demandFewParameters(m.getParameterCount(), m.getName());
+            }
+            for (Constructor<?> made : c.getDeclaredConstructors()) {
+                demandFewParameters(made.getParameterCount(), made.getName());
+            }
+        }
+    }
+
+    private static void demandFewParameters(int parameters, String of) {
+        if (parameters > 7) {
+            faults.add("rule 11: " + parameters + " parameters of " + of);
         }
     }
 }
